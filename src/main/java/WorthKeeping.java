@@ -21,6 +21,8 @@ public final class WorthKeeping {
     private static final int FIRST_ROOM = 8;
     private static final int MOST_RUNS = 20;
     private static final int MOST_CANDIDATES = 5;
+    /** No log can cost more. */
+    private static final int NO_LIMIT = MOST_RUNS * MOST_STEPS;
 
     /** The answers of kept() may be any small number, so its refusals lie further out. */
     private static final int KEPT_UNKNOWN = -1001;
@@ -234,7 +236,7 @@ public final class WorthKeeping {
     }
 
     public int cost(int routines, int room) {
-        return isRoom(room) ? tryOut(routines, room, Integer.MAX_VALUE) : OUTSIDE;
+        return isRoom(room) ? tryOut(routines, room, NO_LIMIT) : OUTSIDE;
     }
 
     public int best(int room) {
@@ -244,7 +246,7 @@ public final class WorthKeeping {
         int candidates = program.firstKeepable(MOST_CANDIDATES);
         int choices = 1 << Integer.bitCount(candidates);
         int chosen = 0;
-        int least = tryOut(0, room, Integer.MAX_VALUE);
+        int least = tryOut(0, room, NO_LIMIT);
         // Choices rise with the routines' numbers, so of alike ones the least number is met first.
         for (int choice = 1; choice < choices; choice++) {
             int routines = pick(choice, candidates);

@@ -197,6 +197,7 @@ public final class ProgramsTest {
     }
 
     private static void readingThroughCalls() {
+        due("reads of two", 1 << 9 | 1 << 2, Checks.made(Checks.codes(209, 202)).reads(0));
         WorthKeeping x = Checks.made(Checks.codes(200, 401), Checks.codes(215, 402),
                 Checks.codes(207, 400, 403, 409), Checks.codes(201, 302), Checks.codes(400, 214));
         int ring = 1 | 1 << 15 | 1 << 7 | 1 << 1;

@@ -337,6 +337,7 @@ public final class RunsTest {
         keptDue("keys", x, want);
         due("number 0 was", 1, x.kept(1, 10));
         due("number 1 was", 5, x.kept(1, 11));
+        due("number 0 was, too", 0, x.kept(0, 10));
         due("number 1 was not read", 0, x.kept(0, 11));
         due("number 2 was not read", 0, x.kept(1, 12));
         // what a full row refuses was not read
@@ -387,7 +388,27 @@ public final class RunsTest {
         ranDue("changed within a run", x, 81 + 60, 29, 20, 1, 1, 3);
         keptDue("changed within a run", x, new int[][] {{0, 1, 40, 81, 0, 9, 1, 2, 0},
             {0, 1, 40, 82, 0, 9, 1, 0, 0}, {0, 1, 40, 60, 0, 9, 1, 0, 1}});
+        callsSideBySide();
         readThroughAHit();
+    }
+
+    /** What a call read and how deep it went is not what the call ahead of it did. */
+    private static void callsSideBySide() {
+        WorthKeeping x = Checks.made(Checks.codes(200, 1, 2, 3, 401, 1, 2, 3, 402), Checks.codes(1, 2, 3, 403),
+                Checks.codes(5), Checks.codes(211));
+        x.store(0, 6);
+        x.store(11, 7);
+        x.keep(0, true);
+        x.keep(1, true);
+        x.keep(2, true);
+        x.run(0, 0, 0, 0);
+        ranDue("side by side", x, 5, 15, 15, 0, 3, 3);
+        int both = 1 | 1 << 11;
+        keptDue("side by side", x, new int[][] {{1, 0, 1 << 11, 7, 0, 5, 1, 0, 1}, {2, 0, 0, 5, 0, 1, 0, 0, 1},
+            {0, 0, both, 5, 0, 15, 2, 0, 1}});
+        due("store 0 was", 6, x.kept(2, 20));
+        due("store 11 was", 7, x.kept(2, 31));
+        due("store 0 was not read", 0, x.kept(0, 20));
     }
 
     private static void readThroughAHit() {
@@ -522,8 +543,12 @@ public final class RunsTest {
         numbersDue("rule 0", x, 9, 2, 8, 7);
         x.run(0, 6, 0, 0);
         numbersDue("rule 0", x, 2, 8, 7, 6);
+        for (int i = 1; i < 4; i++) {
+            due("new ones have no hits", 0, x.kept(i, 7));
+        }
         x = withFourKept(1);
         x.run(0, 8, 0, 0);
+        due("a new one has no hits", 0, x.kept(3, 7));
         numbersDue("rule 1", x, 2, 0, -1, 8);
         x.run(0, 7, 0, 0);
         numbersDue("rule 1", x, 0, -1, 8, 7);
