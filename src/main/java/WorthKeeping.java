@@ -512,9 +512,11 @@ public final class WorthKeeping {
         }
 
         int take() {
-            int taken = last();
-            size = size >= 1 ? size - 1 : 0;
-            return taken;
+            if (size < 1 || size > MOST_IN_ROW) {
+                return 0;
+            }
+            size--;
+            return row[size];
         }
 
         void joinCalled(Frame called) {
