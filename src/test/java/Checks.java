@@ -20,6 +20,10 @@ final class Checks {
         }
     }
 
+    int asked() {
+        return asked;
+    }
+
     boolean allRight() {
         return wrong.isEmpty();
     }
@@ -70,5 +74,35 @@ final class Checks {
             }
         }
         return all.stream().mapToInt(Integer::intValue).toArray();
+    }
+
+    /** Codes that bring numbers and take them away: so many steps, and at most one number is left. */
+    static int[] fillers(int n) {
+        int[] all = new int[n];
+        for (int i = 0; i < n; i++) {
+            all[i] = i % 2 == 0 ? 1 : 506;
+        }
+        return all;
+    }
+
+    /**
+     * Routine 0 does just so many steps (1790 to 2000, through 6 to 9, 4 calls within one another)
+     * with an empty row behind them, and then what it is told; others are 1 to 5 as far as told.
+     */
+    static WorthKeeping afterSteps(int steps, int[] then, int[]... others) {
+        int left = steps - 5 - 4 * 444;
+        int forties = left / 44;
+        left %= 44;
+        int[] rest = left < 4 ? times(left, 1) : codes(1, 1, 1, 406);
+        int[][] all = new int[10][];
+        all[0] = joined(codes(1, 1, 1, 407, 506), then);
+        for (int r = 1; r < 6; r++) {
+            all[r] = r <= others.length ? others[r - 1] : codes();
+        }
+        all[6] = fillers(Math.max(0, left - 4));
+        all[7] = joined(times(4, 1, 1, 1, 408), times(forties, 1, 1, 1, 409), rest);
+        all[8] = times(10, 1, 1, 1, 409);
+        all[9] = fillers(40);
+        return made(all);
     }
 }
