@@ -521,7 +521,9 @@ public final class WorthKeeping {
 
         void joinCalled(Frame called) {
             storesRead |= called.storesRead;
-            within = Math.max(within, called.within + 1);
+            if (called.within >= within) {
+                within = called.within + 1;
+            }
         }
     }
 
